@@ -444,6 +444,8 @@ public final class StoneRings {
     /** What the readers told of the stones. */
     private static final class Readings {
         final int[] counts = new int[READERS * STONES];
+        // Filled anew for each question of who is best, so that no call makes a row of its own.
+        final int[] ranks = new int[READERS];
         int size = 0;
 
         Readings() {
@@ -533,6 +535,9 @@ public final class StoneRings {
 
         int readerAt(int place) {
             for (int reader = 0; reader < READERS; reader++) {
+                ranks[reader] = hits(reader);
+            }
+            for (int reader = 0; reader < READERS; reader++) {
                 if (readersBefore(reader) == place) {
                     return reader;
                 }
@@ -541,11 +546,9 @@ public final class StoneRings {
         }
 
         int readersBefore(int reader) {
-            int own = hits(reader);
             int before = 0;
             for (int other = 0; other < READERS; other++) {
-                int theirs = hits(other);
-                if (theirs > own || theirs == own && other < reader) {
+                if (ranks[other] > ranks[reader] || ranks[other] == ranks[reader] && other < reader) {
                     before++;
                 }
             }

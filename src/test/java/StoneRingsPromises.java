@@ -282,6 +282,9 @@ public final class StoneRingsPromises {
     private static void promise8() {
         StoneRings x = line(13, 0, 0, 0, 6, 12, 0, 12, 6, 0, 0, 12, 12, 12, 12, 12);
         ringsAt("8: the rule at first", x, 5, 12);
+        ringsAt("8: just 2 apart and 5 high", line(0, 0, 9, 0, 0, 0, 0, 0, 0, 0, 0, 0, 0, 0, 0, 0), 2);
+        ringsAt("8: 2 apart and 4 high", line(0, 0, 8, 0, 0, 0, 0, 0, 0, 0, 0, 0, 0, 0, 0, 0));
+        ringsAt("8: 1 apart and 7 high", line(0, 30, 0, 0, 0, 0, 0, 0, 0, 0, 0, 0, 0, 0, 0, 0));
         x.rule(2, 2);
         ringsAt("8: as far apart and as high as the rule asks", x, 5, 7, 12);
         x.rule(3, 2);
@@ -311,15 +314,22 @@ public final class StoneRingsPromises {
                 due("9: ring(0, " + k + ", " + what + ")", x.ring(0, k, what), rings[k][what]);
             }
         }
-        x.pixel(11, 7, 16);
-        due("9: ring(0, 2, 0), nearer", x.ring(0, 2, 0), 12);
-        row(x, 7, 9, 0, 12, 12, 12);
+        x.pixel(10, 7, 12);
         due("9: ring(0, 2, 0), nearer", x.ring(0, 2, 0), 11);
         due("9: ring(0, 1, 3): twice 2 is not below 4", x.ring(0, 1, 3), 0);
+        x.pixel(10, 7, 0);
+        due("9: ring(0, 1, 3) again", x.ring(0, 1, 3), 1);
+        row(x, 7, 10, 0, 0, 0, 0, 0, 0);
+        due("9: rings(0) without the third one", x.rings(0), 2);
+        due("9: ring(0, 1, 3) without the third one", x.ring(0, 1, 3), 0);
         StoneRings two = line(13, 0, 0, 0, 6, 12, 0, 12, 6, 0, 0, 0, 0, 0, 0, 0);
         two.rule(2, 2);
         due("9: rings(0)", two.rings(0), 2);
         due("9: the last one is not false", two.ring(0, 1, 3), 0);
+        StoneRings early = line(0, 0, 0, 6, 12, 0, 12, 6, 0, 0, 12, 12, 12, 12, 12, 12);
+        early.rule(2, 2);
+        ringsAt("9: early", early, 4, 6, 11);
+        due("9: ring(0, 1, 3): twice 2 is not below the 4 before", early.ring(0, 1, 3), 0);
         StoneRings first = line(0, 30, 0, 0, 0, 0, 0, 30, 0, 0, 0, 0, 0, 0, 0, 0);
         first.rule(1, 0);
         due("9: ring(0, 0, 2)", first.ring(0, 0, 2), 1);
