@@ -1,138 +1,5 @@
 /** Promise by promise: ordinary inputs, the edges that the document names, and wrong inputs. */
-public final class StoneRingsPromises {
-    private static final Class<?> INDEX = IndexOutOfBoundsException.class;
-    private static final Class<?> ARGUMENT = IllegalArgumentException.class;
-    private static final Class<?> STATE = IllegalStateException.class;
-    private static final int LEAST = Integer.MIN_VALUE;
-    private static final int MOST = Integer.MAX_VALUE;
-
-    private static int wrong = 0;
-
-    private interface Call {
-        void on(StoneRings x);
-    }
-
-    private interface Question {
-        int of(StoneRings x);
-    }
-
-    private static void fail(String text) {
-        wrong++;
-        System.out.println(text);
-    }
-
-    private static void due(String call, int got, int want) {
-        if (got != want) {
-            fail(call + " answered " + got + ", due is " + want);
-        }
-    }
-
-    private static void due(String call, boolean got, boolean want) {
-        due(call, got ? 1 : 0, want ? 1 : 0);
-    }
-
-    /** The very class, so that what the machine throws (a class below the document's) does not pass for it. */
-    private static void thrown(String call, StoneRings x, Class<?> want, Call wrongCall) {
-        Class<?> got = null;
-        try {
-            wrongCall.on(x);
-        } catch (RuntimeException e) {
-            got = e.getClass();
-        }
-        if (got != want) {
-            fail(call + " threw " + got + ", due is " + want);
-        }
-    }
-
-    /** A wrong call on a used object; all that can be asked of it afterwards is as if there had been no such call. */
-    private static void refused(String call, Class<?> want, Call wrongCall) {
-        StoneRings x = used();
-        thrown(call, x, want, wrongCall);
-        String before = state(used());
-        String after = state(x);
-        if (!before.equals(after)) {
-            fail(call + " threw and changed something:\n  " + before + "\n  " + after);
-        }
-    }
-
-    private static void show(StringBuilder text, StoneRings x, Question question) {
-        String answer;
-        try {
-            answer = Integer.toString(question.of(x));
-        } catch (RuntimeException e) {
-            answer = e.getClass().getSimpleName();
-        }
-        text.append(' ').append(answer);
-    }
-
-    private static String state(StoneRings x) {
-        StringBuilder text = new StringBuilder();
-        for (int k = 0; k < 4; k++) {
-            int at = k;
-            show(text, x, o -> o.count(at));
-            show(text, x, o -> o.joined(at));
-            show(text, x, o -> o.middle(at % 2));
-        }
-        for (int ray = 0; ray < 8; ray++) {
-            int a = ray;
-            show(text, x, o -> o.rings(a));
-            for (int k = 0; k < x.samples(a); k++) {
-                int at = k;
-                show(text, x, o -> o.sample(a, at, false));
-            }
-        }
-        for (int k = 0; k < 80; k++) {
-            int at = k;
-            show(text, x, o -> o.seen(at / 20, at / 20, at % 20));
-        }
-        return text.toString();
-    }
-
-    private static void row(StoneRings x, int y, int from, int... values) {
-        for (int k = 0; k < values.length; k++) {
-            x.pixel(from + k, y, values[k]);
-        }
-    }
-
-    /** A picture whose middle is 0, 7 by a heavy left side, with these samples on ray 0 to the right. */
-    private static StoneRings line(int... values) {
-        StoneRings x = new StoneRings(16, 16);
-        for (int y = 0; y < 16; y++) {
-            x.pixel(0, y, 255);
-        }
-        row(x, 7, 0, values);
-        due("ray of a line", x.ray(1, 0), 0);
-        due("middle x of a line", x.middle(0), 0);
-        due("middle y of a line", x.middle(1), 7);
-        return x;
-    }
-
-    /** Ray 0 has evened 10 3 0 2 6 8 6 8 6 2 3 9 12 12 12 12, ray 1 has 10 3 0 0 2 6 9 6 2 0 2 6 9 6 2 0. */
-    private static StoneRings twoRays() {
-        StoneRings x = line(13, 0, 0, 0, 6, 12, 0, 12, 6, 0, 0, 12, 12, 12, 12, 12);
-        x.ray(5, 1);
-        row(x, 8, 3, 0, 0, 6, 12, 6);
-        row(x, 9, 8, 0, 0, 0, 6, 12);
-        row(x, 10, 13, 6, 0, 0);
-        x.rule(2, 2);
-        return x;
-    }
-
-    private static StoneRings used() {
-        StoneRings x = twoRays();
-        x.ray(-1, 0);
-        x.ray(0, -1);
-        x.ray(0, 5);
-        x.ray(2, 1);
-        x.ray(2, -1);
-        x.ray(-3, -4);
-        x.join(0, 1, 3);
-        x.tell(0, 0, 3);
-        x.tell(1, 0, 4);
-        x.tell(0, 19, 60);
-        return x;
-    }
-
+public final class StoneRingsPromises extends StoneRingsChecks {
     private static void promise1() {
         int[][] sides = {{0, 0, 1, 1}, {1, 16, 1, 16}, {17, 2, 16, 2}, {LEAST, MOST, 1, 16}, {MOST, LEAST, 16, 1}, {-1, 15, 1, 15}};
         for (int[] s : sides) {
@@ -146,8 +13,8 @@ public final class StoneRingsPromises {
         for (int what = 0; what < 4; what++) {
             due("1: count(" + what + ")", x.count(what), 0);
         }
-        due("1: middle(0)", x.middle(0), StoneRings.NONE);
-        due("1: told(0)", x.told(0), StoneRings.NONE);
+        due("1: middle(0)", x.middle(0), NONE);
+        due("1: told(0)", x.told(0), NONE);
         thrown("1: rings(0)", x, INDEX, o -> o.rings(0));
         thrown("1: joined(0)", x, STATE, o -> o.joined(0));
     }
@@ -185,8 +52,8 @@ public final class StoneRingsPromises {
         x.pixel(3, 0, 0);
         x.pixel(0, 2, 0);
         x.pixel(0, 0, 0);
-        due("3: middle(0) of nothing", x.middle(0), StoneRings.NONE);
-        due("3: middle(1) of nothing", x.middle(1), StoneRings.NONE);
+        due("3: middle(0) of nothing", x.middle(0), NONE);
+        due("3: middle(1) of nothing", x.middle(1), NONE);
         thrown("3: middle(2) of nothing", x, INDEX, o -> o.middle(2));
         refused("3: middle(2)", INDEX, o -> o.middle(2));
         refused("3: middle(-1)", INDEX, o -> o.middle(-1));
@@ -272,13 +139,6 @@ public final class StoneRingsPromises {
         refused("7: rule(LEAST, MOST)", ARGUMENT, o -> o.rule(LEAST, MOST));
     }
 
-    private static void ringsAt(String text, StoneRings x, int... places) {
-        due(text + ": rings(0)", x.rings(0), places.length);
-        for (int k = 0; k < places.length && k < x.rings(0); k++) {
-            due(text + ": ring(0, " + k + ", 0)", x.ring(0, k, 0), places[k]);
-        }
-    }
-
     private static void promise8() {
         StoneRings x = line(13, 0, 0, 0, 6, 12, 0, 12, 6, 0, 0, 12, 12, 12, 12, 12);
         ringsAt("8: the rule at first", x, 5, 12);
@@ -289,8 +149,7 @@ public final class StoneRingsPromises {
         ringsAt("8: as far apart and as high as the rule asks", x, 5, 7, 12);
         x.rule(3, 2);
         ringsAt("8: one that is too near does not count as the one before", x, 5, 12);
-        StoneRings many = line(6, 21, 2, 24, 0, 25, 0, 24, 2, 21, 6, 16, 12, 9, 20, 0);
-        many.rule(1, 0);
+        StoneRings many = sevenRings();
         ringsAt("8: seven", many, 1, 3, 5, 7, 9, 11, 13);
         many.rule(2, 0);
         ringsAt("8: the first one is apart from 0", many, 3, 5, 7, 9, 11, 13);
@@ -342,15 +201,6 @@ public final class StoneRingsPromises {
         refused("9: ring(MOST, LEAST, MOST)", INDEX, o -> o.ring(MOST, LEAST, MOST));
     }
 
-    private static void joinsAs(StoneRings x, int ray, int other, int skip, int cost, int... partners) {
-        String call = "join(" + ray + ", " + other + ", " + skip + ")";
-        due("10: " + call, x.join(ray, other, skip), cost);
-        for (int k = 0; k < partners.length; k++) {
-            due("11: joined(" + k + ") behind " + call, x.joined(k), partners[k]);
-        }
-        thrown("11: joined(" + partners.length + ") behind " + call, x, INDEX, o -> o.joined(partners.length));
-    }
-
     /** Ray 0 has rings at 5, 7 and 12, ray 1 at 6 and 12. */
     private static void promise10() {
         StoneRings x = twoRays();
@@ -391,7 +241,7 @@ public final class StoneRingsPromises {
         x.pixel(0, 0, 0);
         due("11: rings(0)", x.rings(0), 0);
         due("11: joined(0) as it was", x.joined(0), 0);
-        due("11: joined(1) as it was", x.joined(1), StoneRings.NONE);
+        due("11: joined(1) as it was", x.joined(1), NONE);
         due("11: joined(2) as it was", x.joined(2), 1);
         refused("11: joined(3)", INDEX, o -> o.joined(3));
         refused("11: joined(-1)", INDEX, o -> o.joined(-1));
@@ -447,7 +297,7 @@ public final class StoneRingsPromises {
     private static void promise15() {
         StoneRings x = new StoneRings(1, 1);
         x.tell(2, 5, 7);
-        due("15: seen(2, 1, 5)", x.seen(2, 1, 5), StoneRings.NONE);
+        due("15: seen(2, 1, 5)", x.seen(2, 1, 5), NONE);
         due("15: seen(2, 2, 5)", x.seen(2, 2, 5), 7);
         thrown("15: seen(1, 2, 5)", x, STATE, o -> o.seen(1, 2, 5));
         thrown("15: seen(2, 2, 6)", x, STATE, o -> o.seen(2, 2, 6));
@@ -475,11 +325,6 @@ public final class StoneRingsPromises {
             }
         }
         return x;
-    }
-
-    private static void fraction(String call, int above, int below, int wantAbove, int wantBelow) {
-        due(call + ", 0)", above, wantAbove);
-        due(call + ", 1)", below, wantBelow);
     }
 
     private static void promise16() {
@@ -527,7 +372,7 @@ public final class StoneRingsPromises {
         due("18: told(1) of two and two", x.told(1), 3);
         x.tell(3, 3, 9);
         due("18: told(3), most before least", x.told(3), 9);
-        due("18: told(19)", x.told(19), StoneRings.NONE);
+        due("18: told(19)", x.told(19), NONE);
         refused("18: told(20)", INDEX, o -> o.told(20));
         refused("18: told(-1)", INDEX, o -> o.told(-1));
     }
@@ -574,7 +419,7 @@ public final class StoneRingsPromises {
         due("21: age(0, 0, 364)", x.age(0, 0, 364), 4);
         due("21: age(2, 0, 364), not below 0", x.age(2, 0, 364), 0);
         due("21: age(2, 0, 0)", x.age(2, 0, 0), 0);
-        due("21: age(9, 0, 364), not told", x.age(9, 0, 364), StoneRings.NONE);
+        due("21: age(9, 0, 364), not told", x.age(9, 0, 364), NONE);
         thrown("21: age(9, 365, 0), not told", x, ARGUMENT, o -> o.age(9, 365, 0));
         refused("21: age(0, 365, 1)", ARGUMENT, o -> o.age(0, 365, 1));
         refused("21: age(0, -1, 1)", ARGUMENT, o -> o.age(0, -1, 1));
@@ -620,11 +465,11 @@ public final class StoneRingsPromises {
         due("23: count(0)", x.count(0), 8);
         due("23: count(1)", x.count(1), 2);
         due("23: count(2)", x.count(2), 3);
-        due("23: count(3)", x.count(3), 15 * 255 + 109 + 48);
-        due("23: count(4)", x.count(4), StoneRings.NONE);
-        due("23: count(-1)", x.count(-1), StoneRings.NONE);
-        due("23: count(LEAST)", x.count(LEAST), StoneRings.NONE);
-        due("23: count(MOST)", x.count(MOST), StoneRings.NONE);
+        due("23: count(3)", x.count(3), 14 * 255 - 33 + 109 + 48);
+        due("23: count(4)", x.count(4), NONE);
+        due("23: count(-1)", x.count(-1), NONE);
+        due("23: count(LEAST)", x.count(LEAST), NONE);
+        due("23: count(MOST)", x.count(MOST), NONE);
         StoneRings full = new StoneRings(1, 1);
         for (int k = 0; k < 80; k++) {
             full.tell(k % 4, k / 4, k % 61);
@@ -657,9 +502,6 @@ public final class StoneRingsPromises {
         promise21();
         promise22();
         promise23();
-        System.out.println(wrong == 0 ? "all promises hold" : wrong + " answers are not as due");
-        if (wrong != 0) {
-            System.exit(1);
-        }
+        end();
     }
 }
