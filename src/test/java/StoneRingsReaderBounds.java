@@ -107,7 +107,7 @@ public final class StoneRingsReaderBounds extends StoneRingsChecks {
         biases("nothing told", x, 0, 1);
         fraction("itself, nothing told: agree(2, 2", x.agree(2, 2, 0), x.agree(2, 2, 1), 0, 1);
         x.tell(0, 0, 5);
-        x.tell(1, 1, 5);
+        x.tell(1, 1, 9);
         agrees("no stone that both told", x, 0, 1);
         biases("no stone that both told", x, 0, 1);
         fraction("itself: agree(0, 0", x.agree(0, 0, 0), x.agree(0, 0, 1), 1, 1);

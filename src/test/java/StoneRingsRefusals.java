@@ -233,6 +233,24 @@ public final class StoneRingsRefusals extends StoneRingsChecks {
                 everyEdge(StoneRingsChecks::used, (x, n) -> x.count(n[0]), TAKEN, free(0, 3)));
     }
 
+    private static void firstNamed() {
+        refused("pixel(16, 0, 256)", INDEX, o -> o.pixel(16, 0, 256));
+        refused("ray(6, 0) where there are 8", ARGUMENT, o -> o.ray(6, 0));
+        refused("ray(0, 0) where there are 8", ARGUMENT, o -> o.ray(0, 0));
+        refused("join(8, 0, 51)", INDEX, o -> o.join(8, 0, 51));
+        refused("join(0, 8, -1)", INDEX, o -> o.join(0, 8, -1));
+        thrown("joined(-1) before any join", twoRays(), STATE, o -> o.joined(-1));
+        thrown("joined(3) before any join", twoRays(), STATE, o -> o.joined(3));
+        refused("back(8, 0, 100001)", INDEX, o -> o.back(8, 0, 100001));
+        refused("back(0, 3, -1)", INDEX, o -> o.back(0, 3, -1));
+        refused("tell(4, 0, 61)", INDEX, o -> o.tell(4, 0, 61));
+        refused("tell(0, 20, -1)", INDEX, o -> o.tell(0, 20, -1));
+        refused("tell(0, 0, 61) of a stone that it told", ARGUMENT, o -> o.tell(0, 0, 61));
+        refused("seen(3, 4, 0), which may not", INDEX, o -> o.seen(3, 4, 0));
+        refused("age(20, 365, 0)", INDEX, o -> o.age(20, 365, 0));
+        refused("age(-1, 0, -1)", INDEX, o -> o.age(-1, 0, -1));
+    }
+
     /** Nothing told and nothing painted: there is still less that a refused call could hide behind. */
     private static void onUnused() {
         Maker unused = StoneRingsRefusals::unused;
@@ -267,11 +285,12 @@ public final class StoneRingsRefusals extends StoneRingsChecks {
     }
 
     public static void main(String[] args) {
-        triedObject();
+        sentence("the object that is tried", StoneRingsRefusals::triedObject);
         pixelsAndRays();
         raysAsked();
         sentence("5, 6, 8, 9, 10, 12, 22: there is no such ray: one that is not told yet", StoneRingsRefusals::raysNotTold);
         readers();
+        sentence("of several exceptions the one named first is thrown", StoneRingsRefusals::firstNamed);
         sentence("A call that throws changes nothing: on an object that was not used", StoneRingsRefusals::onUnused);
         sentence("A call that throws changes nothing: the same call is taken afterwards", StoneRingsRefusals::rightlyAfterwards);
         end();
